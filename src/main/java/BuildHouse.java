@@ -189,6 +189,7 @@ public final class BuildHouse {
     /** Why the told request at hand is refused, the book's room aside; empty when it is not. */
     private String refusal() {
         long name = request.heads[0];
+        Definition draft = request.draft;
         switch (request.verb) {
             case PUT:
                 return plan.fileAt(name, request.tails[0]) < 0 && plan.files >= MOST_FILES ? "no room" : "";
@@ -197,7 +198,8 @@ public final class BuildHouse {
             case FLAG:
                 return plan.flagAt(name) < 0 && plan.flags >= MOST_FLAGS ? "no room" : "";
             case TARGET:
-                return refusalOfTarget();
+                return !draft.hasRule() ? "no rule" : !draft.hasItsWord() ? "no word"
+                        : plan.hasNoRoom(draft.name) ? "no room" : plan.wouldCircle(draft) ? "circle" : "";
             case DROP:
                 return plan.targetAt(name) < 0 ? "no target" : "";
             case BUILD:
@@ -216,20 +218,6 @@ public final class BuildHouse {
             default:
                 return "";
         }
-    }
-
-    private String refusalOfTarget() {
-        Definition draft = request.draft;
-        if (draft.code < 0) {
-            return "no rule";
-        }
-        if ((draft.code == Definition.GREP) != (draft.word != 0)) {
-            return "no word";
-        }
-        if (plan.numberOf(draft.name) < 0 && plan.targets >= MOST_TARGETS) {
-            return "no room";
-        }
-        return plan.wouldCircle(draft) ? "circle" : "";
     }
 
     /** Does the told request at hand, which is admitted. */
@@ -902,6 +890,15 @@ public final class BuildHouse {
             }
         }
 
+        boolean hasRule() {
+            return code >= 0;
+        }
+
+        /** Whether there is a word where the rule wants one, and none where it does not. */
+        boolean hasItsWord() {
+            return (code == GREP) == (word != 0);
+        }
+
         void addInput(boolean isTarget, long head, long tail) {
             if (inputs < MOST_INPUTS) {
                 ofTarget[inputs] = isTarget;
@@ -947,6 +944,9 @@ public final class BuildHouse {
 
     /** Files (in the order of their paths), flags and targets (by their numbers), and the chains of needs. */
     private static final class Plan {
+        // Stands behind all heads of paths.
+        private static final long BEHIND_ALL = 0x7fffffffffffffffL;
+
         private int files;
         private final long[] heads = new long[MOST_FILES];
         private final long[] tails = new long[MOST_FILES];
@@ -1090,6 +1090,10 @@ public final class BuildHouse {
                 }
             }
             return -1;
+        }
+
+        boolean hasNoRoom(long name) {
+            return numberOf(name) < 0 && targets >= MOST_TARGETS;
         }
 
         long nameOf(int t) {
@@ -1257,7 +1261,7 @@ public final class BuildHouse {
             long tail = 0;
             // Each round finds the next path; the rounds are not more than the inputs of all targets.
             for (int round = 0; round < MOST_TARGETS * MOST_INPUTS; round++) {
-                long nextHead = Long.MAX_VALUE;
+                long nextHead = BEHIND_ALL;
                 long nextTail = 0;
                 for (int u = 0; u < targets; u++) {
                     Definition d = definitions[u];
@@ -1269,7 +1273,7 @@ public final class BuildHouse {
                         }
                     }
                 }
-                if (nextHead == Long.MAX_VALUE) {
+                if (nextHead == BEHIND_ALL) {
                     return;
                 }
                 head = nextHead;
@@ -1387,11 +1391,9 @@ public final class BuildHouse {
             why.set(other.why, 0, other.why.size());
         }
 
-        void copyFrom(Outcome other) {
-            takeResult(other);
+        void takeParts(Outcome other) {
             System.arraycopy(other.parts, 0, parts, 0, parts.length);
             partCount = other.partCount;
-            key = other.key;
         }
 
         void addPart(long part) {
@@ -1465,7 +1467,8 @@ public final class BuildHouse {
                 kept[k] = kept[k + 1];
             }
             kept[keptCount - 1] = moved;
-            moved.copyFrom(made);
+            moved.takeResult(made);
+            moved.key = made.key;
         }
 
         boolean hasPut(int t) {
@@ -1534,7 +1537,7 @@ public final class BuildHouse {
             for (int i = up; i < edition.length; i++) {
                 edition[i] = i == up ? edition[i] + 1 : 0;
             }
-            before.copyFrom(now);
+            before.takeResult(now);
             tellEdition(t, out);
         }
 
@@ -1896,6 +1899,8 @@ public final class BuildHouse {
         private final int[] counts = new int[3];
         // The lowest target that failed, -1 without one, and why.
         private int failed = -1;
+        // There was nothing to take, and nothing was done since: so there is nothing to take.
+        private boolean dry;
         private final Row failure = new Row(24);
 
         Session(Workshop workshop, int keptRoom) {
@@ -1921,6 +1926,7 @@ public final class BuildHouse {
             Arrays.fill(holds, -1);
             runCount = 0;
             failed = -1;
+            dry = false;
         }
 
         void begin(Plan now, int t) {
@@ -1939,7 +1945,7 @@ public final class BuildHouse {
         void go(int most) {
             for (int i = 0; i < most && going; i++) {
                 for (int w = 0; w < WORKERS; w++) {
-                    if (holds[w] < 0) {
+                    if (holds[w] < 0 && !dry) {
                         take(w, choose());
                     }
                     left[w]--;
@@ -1953,7 +1959,7 @@ public final class BuildHouse {
                     }
                 }
                 steps++;
-                going = holds[0] >= 0 || holds[1] >= 0 || choose() >= 0;
+                going = holds[0] >= 0 || holds[1] >= 0 || !dry && choose() >= 0;
             }
         }
 
@@ -1980,6 +1986,7 @@ public final class BuildHouse {
 
         private void take(int w, int t) {
             if (t < 0 || t >= plan.targets) {
+                dry = true;
                 return;
             }
             Definition d = plan.definitions[t];
@@ -2012,13 +2019,15 @@ public final class BuildHouse {
             int t = holds[w];
             Outcome bench = benches[w];
             holds[w] = -1;
+            dry = false;
             counts[ways[w]]++;
             if (ways[w] != AHEAD) {
                 store.keep(bench);
             }
             if (bench.built) {
                 ends[t] = BUILT;
-                store.put[t].copyFrom(bench);
+                store.put[t].takeResult(bench);
+                store.put[t].takeParts(bench);
                 return;
             }
             ends[t] = FAILED;

@@ -18,7 +18,7 @@ public final class RandomRunsTest {
 
     private RandomRunsTest(long seed) {
         random = new Random(seed);
-        profile = (int) (seed % 6);
+        profile = (int) (seed % 8);
     }
 
     public static void main(String[] args) {
@@ -38,13 +38,79 @@ public final class RandomRunsTest {
 
     private String go() {
         for (int i = 0; i < 220; i++) {
-            String wrong = call();
+            if (profile > 5 && (i == 0 || model.state(8) > 1990 || model.state(8) == 7)) {
+                String wrong = setUp();
+                if (wrong != null) {
+                    return wrong;
+                }
+            }
+            String wrong = profile > 5 && random.nextInt(3) > 0 ? round() : call();
             wrong = wrong == null ? compare(i % 20 == 19) : wrong;
             if (wrong != null) {
                 return wrong;
             }
         }
         return null;
+    }
+
+    /** A house whose targets need those of lower numbers: most of what is built there can be. */
+    private String setUp() {
+        List<String> told = new ArrayList<>(List.of("house", "put a <" + shortText() + ">",
+                "put b <" + shortText() + ">", "put c <" + shortText() + ">"));
+        for (int t = 0; t < 6; t++) {
+            told.add("target " + layered(t));
+        }
+        for (String request : told) {
+            String wrong = ask(request);
+            wrong = wrong == null ? compare(false) : wrong;
+            if (wrong != null) {
+                return wrong;
+            }
+        }
+        return null;
+    }
+
+    /** A change, what is built of it, and a look at it. */
+    private String round() {
+        List<String> asked = new ArrayList<>();
+        if (random.nextInt(3) > 0) {
+            asked.add(request(0));
+        }
+        asked.add("build " + (random.nextInt(3) > 0 ? "t5" : target()));
+        asked.add("go 999");
+        asked.add(random.nextInt(4) == 0 ? "release " + target() : shown());
+        if (random.nextInt(6) == 0) {
+            asked.add(chain());
+        }
+        for (String request : asked) {
+            String wrong = ask(request);
+            wrong = wrong == null ? compare(false) : wrong;
+            if (wrong != null) {
+                return wrong;
+            }
+        }
+        return null;
+    }
+
+    private String shortText() {
+        if (profile == 6) {
+            return pick("x=1|", "pub x=2|", "x=1|pub y=x+x|", "pub y=3|pub x=4", "z=y|", "pub z=5|", "pub q=x*y|", "",
+                    "pub x=1||y=2|", "pub x=9999|pub y=x*x", "x=z|",
+                    "x=" + random.nextInt(50), "pub x=" + random.nextInt(50) + "|");
+        }
+        return pick("o|p|o", "x|", "", "|", "o", "|o||o|", "x_1|o|x_1", "b|a|b", "~ !|o|", "o".repeat(90),
+                "o".repeat(random.nextInt(161)), "x" + random.nextInt(100), "x" + random.nextInt(100) + "|", "aab|aa|a|");
+    }
+
+    private String layered(int t) {
+        StringBuilder all = new StringBuilder("t").append(t).append('=');
+        all.append(profile == 6 && random.nextInt(4) > 0 ? "compile" : RULES[random.nextInt(RULES.length - 2)]);
+        int inputs = 1 + random.nextInt(random.nextInt(3) == 0 ? 6 : 2);
+        for (int i = 0; i < inputs; i++) {
+            boolean below = t > 0 && (random.nextInt(2) == 0 || i == 0);
+            all.append(i == 0 ? '(' : ',').append(below ? ":t" + random.nextInt(t) : pick("a", "b", "c"));
+        }
+        return all.append(')').append(random.nextInt(12) == 0 ? "?f=" + number(1) : "").toString();
     }
 
     private String call() {
@@ -69,6 +135,10 @@ public final class RandomRunsTest {
         if (random.nextInt(profile == 3 ? 2 : 25) == 0) {
             request = spoiled(request);
         }
+        return ask(request);
+    }
+
+    private String ask(String request) {
         log.add("ask " + request);
         feed(request);
         int length = request.length();
@@ -137,6 +207,8 @@ public final class RandomRunsTest {
             {6, 2, 2, 8, 2, 4, 5, 2, 2, 4, 2, 10, 6, 8, 1, 1, 1},
             {10, 2, 2, 10, 2, 6, 10, 1, 4, 4, 1, 8, 6, 4, 4, 10, 1},
             {10, 1, 2, 4, 1, 16, 24, 1, 8, 0, 0, 16, 10, 0, 0, 1, 0},
+            {20, 1, 1, 3, 1, 18, 24, 1, 12, 0, 0, 24, 8, 0, 0, 1, 0},
+            {20, 1, 1, 3, 1, 18, 24, 1, 12, 0, 0, 24, 8, 0, 0, 1, 0},
         };
         int[] w = weights[profile];
         int sum = 0;
@@ -153,6 +225,15 @@ public final class RandomRunsTest {
     }
 
     private String request(int kind) {
+        if (profile > 5 && kind == 0) {
+            return "put " + path() + " <" + shortText() + ">";
+        }
+        if (profile > 5 && kind == 3) {
+            return "target " + layered(random.nextInt(6));
+        }
+        if (profile > 5 && kind == 6 && random.nextInt(3) > 0) {
+            return "go 999";
+        }
         switch (kind) {
             case 0: return "put " + path() + " <" + text() + ">";
             case 1: return "gone " + path();
@@ -182,6 +263,9 @@ public final class RandomRunsTest {
         if (profile == 1 && random.nextInt(3) > 0) {
             return "p" + random.nextInt(20);
         }
+        if (profile > 5) {
+            return pick("a", "b", "c");
+        }
         return pick("a", "b", "s.src", "t/u.src", "b/longpath12", "b/longpath", "a_");
     }
 
@@ -189,11 +273,14 @@ public final class RandomRunsTest {
         if (profile == 1) {
             return "t" + random.nextInt(16);
         }
+        if (profile > 5) {
+            return "t" + random.nextInt(6);
+        }
         return pick("a", "lib", "app", "all", "top", "eightlen", "n");
     }
 
     private String flag() {
-        return profile == 1 ? "f" + random.nextInt(8) : pick("dbg", "opt");
+        return profile > 5 ? "f" : profile == 1 ? "f" + random.nextInt(8) : pick("dbg", "opt");
     }
 
     private String text() {
