@@ -1948,15 +1948,19 @@ public final class BuildHouse {
                     if (holds[w] < 0 && !dry) {
                         take(w, choose());
                     }
-                    left[w]--;
-                    if (holds[w] >= 0 && left[w] <= 0) {
-                        if (ways[w] == WORKED) {
-                            Definition d = plan.definitions[holds[w]];
-                            workshop.load(plan, store.put, d);
-                            workshop.work(d, benches[w]);
-                        }
-                        finish(w);
+                    if (holds[w] < 0) {
+                        continue;
                     }
+                    left[w]--;
+                    if (left[w] > 0) {
+                        continue;
+                    }
+                    if (ways[w] == WORKED) {
+                        Definition d = plan.definitions[holds[w]];
+                        workshop.load(plan, store.put, d);
+                        workshop.work(d, benches[w]);
+                    }
+                    finish(w);
                 }
                 steps++;
                 going = holds[0] >= 0 || holds[1] >= 0 || !dry && choose() >= 0;

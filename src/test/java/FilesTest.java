@@ -58,6 +58,22 @@ public final class FilesTest {
             anew t => unlike t
             anew u => unlike u
             anew v => failed v: absent""".stripIndent());
+        // A house has none.
+        Talk.of("""
+            flag a 1 => ok
+            flag b 1 => ok
+            house => ok
+            put x <x> => ok
+            target u=join(x)?a=1 => ok
+            anew u => failed u: absent
+            flag c 1 => ok
+            flag d 1 => ok
+            flag e 1 => ok
+            flag f 1 => ok
+            flag g 1 => ok
+            flag a 1 => ok
+            flag b 1 => no room
+            anew u => unlike u""".stripIndent());
         // Records: seven flags of 8 bytes, one of 11, three targets of 20, a put of 9, each with 2 more.
         talk.state(8, 7 * 10 + 13 + 3 * 22 + 11);
     }
@@ -114,7 +130,7 @@ public final class FilesTest {
         for (int i = 0; i < 16; i++) {
             talk.says("put f" + i + " <" + i + ">", "ok");
         }
-        talk.state(0, 16).says("put f16 <x>", "no room").says("put f3 <x>", "ok").says("gone f16", "no file");
+        talk.state(0, 16).says("put f16 <x>", "no room").says("put f3 <x>", "ok").says("put f0 <0>", "ok").says("gone f16", "no file");
         talk.says("gone f3", "ok").says("put f16 <x>", "ok").says("put f3 <x>", "no room").state(0, 16);
         talk.says("files", "f0 1;f1 1;f10 2;f11 2;f12 2;f13 2;f14 2;f15 2;f16 1;f2 1;f4 1;f5 1;f6 1;f7 1;f8 1;f9 1;");
     }
@@ -129,5 +145,9 @@ public final class FilesTest {
         talk.says("target new=nope(a)", "no rule").state(1, 13);
         talk.says("target t5=sort(b)", "ok").says("target t5=join(:t5)", "circle").state(1, 14);
         talk.says("users b", "t5;").says("users c", "");
+        // A house has none of them, and numbers them anew.
+        talk.says("house", "ok").says("targets", "").says("users b", "").says("longest t0", "no target");
+        talk.says("target t9=join(:t8,c)", "ok").says("target t8=join(b)", "ok").says("targets",
+            "t9=join(:t8,c);t8=join(b);").says("users b", "t9;t8;").says("longest t9", "2 t9 t8");
     }
 }

@@ -7,6 +7,7 @@ public final class GrammarTest {
 
     public static void main(String[] args) {
         words();
+        beginnings();
         names();
         texts();
         numbers();
@@ -59,6 +60,28 @@ public final class GrammarTest {
         talk.eachSays("bad 2", "go", "gox", "stix", "rux");
         talk.eachSays("bad 6", "target", "targetz");
         talk.eachSays("bad 7", "targetst", "targets ");
+    }
+
+    /** Right requests of which no beginning is right: each ends too soon. */
+    private static void beginnings() {
+        String[] right = {"house", "put a <x>", "gone a", "flag f 1", "target a=join.w(b,:c)", "drop a", "build a",
+            "go 1", "stop", "release a", "wish 1 1 1", "need 1 1 1 1 1", "unwish", "files", "show a", "output a",
+            "face a", "why a", "runs", "work", "anew a", "needs a", "users a", "way a b", "longest a", "kept",
+            "edition a", "rules", "solve", "meets 1", "refute", "disprove ?0!00?1!00!00!00!00!00!00", "cut 1", "mend",
+            "targets"};
+        Talk talk = new Talk();
+        for (String request : right) {
+            for (int i = 0; i < request.length(); i++) {
+                talk.says(request.substring(0, i), "bad " + i);
+            }
+            // A sign that may nowhere stand behind it.
+            talk.says(request + "^", "bad " + request.length());
+        }
+        String condition = "target a=join(b)?f=1";
+        for (int i = 17; i < condition.length(); i++) {
+            talk.says(condition.substring(0, i), "bad " + i);
+        }
+        talk.state(8, 0);
     }
 
     private static void names() {

@@ -66,6 +66,9 @@ public final class RulesTest {
         rule(talk, "digest", "c", "85944171f73967e8|");
         rule(talk, "digest", "d,a,e", "85944171f73967e8|");
         talk.says("face t", "85944171f73967e8|");
+        talk.says("put a <|>", "ok").says("put b <a|b|>", "ok");
+        rule(talk, "digest", "a", "af63c74c8601c8dd|");
+        rule(talk, "digest", "b", "78ed6781f136a14e|");
     }
 
     private static void large() {
@@ -148,6 +151,23 @@ public final class RulesTest {
             talk.says("put a <" + b[0] + ">", "ok").says("target f=join(a)", "ok");
             talk.says("target t=compile(:f)", "ok").says("build t", "ok").says("go 99", "failed t: bad " + b[1]);
         }
+        // No value of an action of before.
+        Talk.of("""
+            put a <x=1|> => ok
+            put b <y=x|> => ok
+            target f=join(a) => ok
+            target t=compile(:f,b) => ok
+            build t => ok
+            go 99 => built
+            target t=compile(b) => ok
+            build t => ok
+            go 99 => failed t: bad 0 0
+            target t=compile(a,b) => ok
+            build t => ok
+            go 99 => built
+            target t=compile(b,b) => ok
+            build t => ok
+            go 99 => failed t: bad 0 0""".stripIndent());
         // The first of them, inputs in order; a face behind a source is not ahead of it.
         Talk.of("""
             put a <x=1|> => ok

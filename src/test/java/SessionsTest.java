@@ -50,6 +50,7 @@ public final class SessionsTest {
         // Lib is kept: done in step 1, where worker 1 takes all at once. 53 and 5 bytes: 8 steps.
         talk.state(4, 8);
         two();
+        three();
     }
 
     /** Two workers: each takes the lowest that can be taken, and worker 1 sees what worker 0 has just done. */
@@ -70,6 +71,28 @@ public final class SessionsTest {
         talk.says("go 2", "on").state(11, -1).state(12, 0).state(6, 3).says("runs", "z;y;x;top;");
         // Top has 2 + 20 + 1 bytes: 5 steps, of which one is done.
         talk.says("go 3", "on").says("go 1", "built").state(4, 10).says("output top", "1|123456789012345678901");
+    }
+
+    /** A worker keeps what it has, while others may be taken; three that wait for nothing. */
+    private static void three() {
+        Talk talk = Talk.of("""
+            put a <123456789012345678901> => ok
+            put b <> => ok
+            target x=join(a) => ok
+            target y=join(b) => ok
+            target z=count(b) => ok
+            target v=digest(b) => ok
+            target w=join(:x,:y,:z,:v) => ok
+            build w => ok
+            go 1 => on""".stripIndent());
+        // x's work is 5 steps, the others' 2 each: worker 1 does them, y, z, and the half of v.
+        talk.state(11, 0).state(12, 1).says("go 1", "on").state(11, 0).state(12, -1);
+        talk.says("go 1", "on").state(11, 0).state(12, 2).says("go 1", "on").state(11, 0).state(12, -1);
+        talk.says("go 1", "on").state(11, -1).state(12, 3).state(6, 3).says("runs", "x;y;z;v;");
+        // Worker 0 has nothing to take: v is not done when it looks. Then worker 1 is done with it.
+        talk.says("go 1", "on").state(11, -1).state(12, -1).state(6, 4);
+        // 21, 0, 2 and 17 bytes: 6 steps.
+        talk.says("go 1", "on").state(11, 4).state(12, -1).says("go 4", "on").says("go 1", "built").state(4, 12);
     }
 
     private static void failures() {
@@ -128,6 +151,18 @@ public final class SessionsTest {
             build z => ok
             go 9999 => failed x: no file no1
             stop => no session""".stripIndent());
+        talk.go("""
+            target y=join(no2)?f=1 => ok
+            target zz=join(:y,:x,:z) => ok
+            drop all => ok
+            build zz => ok
+            go 9 => failed x: no file no1
+            target x=join(long/path/no) => ok
+            build zz => ok
+            go 9 => failed x: no file long/path/no
+            target all=join(no0) => ok
+            build zz => ok
+            go 9 => failed all: no file no0""".stripIndent());
         // A rule's failure is an outcome: worked once, then kept; what was put before stays, with its parts.
         Talk.of("""
             put a <x=1> => ok
@@ -263,6 +298,20 @@ public final class SessionsTest {
             output top => q=1|x=1|y=3|
             face app =>
             why app => input 0""".stripIndent());
+        // The path, where it ends, and whether it is a file or a target, are of a part: none of these is one another.
+        String[] alike = {"abcdefgh1", "abcdefgh2", "a", "ab", ":a"};
+        Talk parts = Talk.of("""
+            put abcdefgh1 <bc> => ok
+            put abcdefgh2 <bc> => ok
+            put a <bc> => ok
+            put ab <c> => ok
+            target a=join(a) => ok
+            build a => ok
+            go 9 => built""".stripIndent());
+        for (int i = 0; i < alike.length; i++) {
+            parts.says("target t=upper(" + alike[i] + ")", "ok").says("build t", "ok").says("go 9", "built");
+            parts.says("why t", i == 0 ? "new" : "input 0").says("work", i + 2 + (i == 4 ? " 1 0" : " 0 0"));
+        }
         // Two workers at once on one key: both work, one is kept.
         Talk.of("""
             put a <x> => ok

@@ -41,7 +41,10 @@ public final class VersionsTest {
             unwish => ok
             rules => w4 1 3;n4 3 0 2 2;
             meets 2 - - - 3 => meets
-            wish 1 2 2 => rule 2""".stripIndent());
+            wish 1 2 2 => rule 2
+            unwish => ok
+            need 0 1 1 2 3 => rule 2
+            rules => w4 1 3;n4 3 0 2 2;n0 1 1 2 3;""".stripIndent());
         talk.state(2, 3);
         for (int k = 3; k < 20; k++) {
             talk.says(k % 2 == 0 ? "need 0 1 0 1 1" : "wish 1 2 3", "rule " + k);
@@ -85,6 +88,19 @@ public final class VersionsTest {
             meets 1 2 2 3 - => broken 13
             disprove !13 => open 0
             disprove ?2!12!12!13!12 => refuted""".stripIndent());
+        // All five parts.
+        Talk.of("""
+            wish 0 1 3 => rule 0
+            wish 1 1 3 => rule 1
+            wish 2 1 3 => rule 2
+            wish 3 1 3 => rule 3
+            solve => 3 3 3 3 -
+            wish 4 1 3 => rule 4
+            solve => 3 3 3 3 3
+            need 0 3 4 2 2 => rule 5
+            solve => 3 3 3 3 2
+            need 4 2 1 1 1 => rule 6
+            solve => 3 1 3 3 2""".stripIndent());
         // A need of what is not there holds; a part that needs another version of itself can't be so.
         Talk.of("""
             need 0 3 0 1 2 => rule 0
