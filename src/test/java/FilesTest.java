@@ -37,7 +37,11 @@ public final class FilesTest {
             put abcdefg <7> => ok
             files => a 7;a/ 3;a0 2;a_ 1;ab 10;abcdefg 1;abcdefgh 1;abcdefgh_ 2;abcdefghi 1;b 8;
             show abcdefgh => 8
-            show abcdefghi => 9""".stripIndent());
+            show abcdefghi => 9
+            gone abcdefgh_ => ok
+            show abcdefghi => 9
+            show abcdefgh_ => no file
+            files => a 7;a/ 3;a0 2;a_ 1;ab 10;abcdefg 1;abcdefgh 1;abcdefghi 1;b 8;""".stripIndent());
     }
 
     private static void flags() {

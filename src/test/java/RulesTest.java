@@ -145,7 +145,8 @@ public final class RulesTest {
             talk.says("go 99", "failed t: bad " + b[1]);
         }
         String[][] badFaces = {{"x=1+1", "0 0"}, {"x=1||", "0 1"}, {"pub x=1", "0 0"}, {"x=y", "0 0"}, {"x=01", "0 0"},
-            {"x=1|y=10000", "0 1"}, {"a23456789=1", "0 0"}, {"x", "0 0"}, {"x=", "0 0"}, {"x=1 ", "0 0"}};
+            {"x=1|y=10000", "0 1"}, {"a23456789=1", "0 0"}, {"x", "0 0"}, {"x=", "0 0"}, {"x=1 ", "0 0"},
+            {"=5", "0 0"}, {"x+5", "0 0"}, {"x5", "0 0"}};
         for (String[] b : badFaces) {
             Talk talk = new Talk();
             talk.says("put a <" + b[0] + ">", "ok").says("target f=join(a)", "ok");
