@@ -155,6 +155,10 @@ public final class VersionsTest {
         three.says("refute", "?0" + one.repeat(4)).says("disprove " + leaf, "refuted");
         three.says("disprove ?2!00!01!00!01", "refuted").says("disprove ?2!01!01!00!01", "refuted");
         three.says("disprove ?2!00!00!00!01", "open 1").says("disprove ?2!00!01!01!01", "open 2");
+        // A rule that is gone is not there, though it would be broken.
+        three.says("disprove " + leaf, "refuted").says("unwish", "ok").says("disprove " + leaf, "open 1");
+        three.says("meets - - 1 - -", "meets").says("refute", "solved").says("unwish", "ok");
+        three.says("disprove " + leaf, "open 0").says("solve", "- - - - -");
         // Rules above 9 have two digits.
         Talk many = new Talk();
         for (int k = 0; k < 12; k++) {
