@@ -2104,8 +2104,8 @@ public final class BuildHouse {
     /** The rules of outside parts, their solution, and trees that tell why there is none. */
     private static final class Versions {
         private static final int UNDECIDED = -1;
-        private static final int WAYS = VERSIONS + 1;
-        private static final int ALL_WAYS = WAYS * WAYS * WAYS * WAYS * WAYS;
+        // The places of a tree in which each part is decided once: 1, 4, 16, 64, 256, 1024.
+        private static final int MOST_PLACES = 1365;
         // A right tree of d levels has 11 d + 3 bytes or more: the tape has no room for as many.
         private static final int LEVELS = REQUEST_ROOM / 8;
 
@@ -2118,6 +2118,7 @@ public final class BuildHouse {
         private final int[] high = new int[MOST_RULES];
         // Of each part what is decided: 0 none, else its version.
         private final int[] values = new int[PARTS];
+        private final int[] best = new int[PARTS];
         // For the ways in a tree that is judged: at each level the part, what it was ahead, and which tree it is in.
         private final int[] levelParts = new int[LEVELS];
         private final int[] levelValues = new int[LEVELS];
@@ -2179,31 +2180,39 @@ public final class BuildHouse {
             return -1;
         }
 
-        /** Decides all parts by a number: its digits to the base 4, part 0 the highest. How many parts are there. */
-        private int decide(int number) {
-            int rest = number;
-            int there = 0;
-            for (int p = PARTS - 1; p >= 0; p--) {
-                values[p] = rest % WAYS;
-                rest /= WAYS;
-                there += values[p] > 0 ? 1 : 0;
-            }
-            return there;
-        }
-
-        /** The solution's number, as it is decided by; -1 when there is none. */
-        private int solution() {
-            int best = -1;
+        /**
+         * Whether there is a solution; it is the best one then. Parts are decided in order, from the greatest version
+         * to none: so the first one of as many parts is the one to tell.
+         */
+        private boolean findSolution() {
+            Arrays.fill(values, UNDECIDED);
             int fewest = PARTS + 1;
-            // Downwards: so the first one of as many parts is the one to tell.
-            for (int number = ALL_WAYS - 1; number >= 0; number--) {
-                int there = decide(number);
-                if (there < fewest && lowestBroken() < 0) {
-                    best = number;
+            int decided = 0;
+            int there = 0;
+            boolean more = true;
+            for (int round = 0; more && round < MOST_PLACES; round++) {
+                boolean right = there < fewest && lowestBroken() < 0;
+                if (right && decided < PARTS) {
+                    values[decided] = VERSIONS;
+                    decided++;
+                    there++;
+                    continue;
+                }
+                if (right) {
+                    System.arraycopy(values, 0, best, 0, PARTS);
                     fewest = there;
                 }
+                while (decided > 0 && values[decided - 1] == 0) {
+                    decided--;
+                    values[decided] = UNDECIDED;
+                }
+                more = decided > 0;
+                if (more) {
+                    values[decided - 1]--;
+                    there -= values[decided - 1] == 0 ? 1 : 0;
+                }
             }
-            return best;
+            return fewest <= PARTS;
         }
 
         void tellRules(Row out) {
@@ -2227,17 +2236,15 @@ public final class BuildHouse {
         }
 
         void tellSolution(Row out) {
-            int best = solution();
-            if (best < 0) {
+            if (!findSolution()) {
                 out.addText("none");
                 return;
             }
-            decide(best);
             for (int p = 0; p < PARTS; p++) {
                 if (p > 0) {
                     out.add(' ');
                 }
-                out.add(values[p] == 0 ? '-' : '0' + values[p]);
+                out.add(best[p] == 0 ? '-' : '0' + best[p]);
             }
         }
 
@@ -2258,15 +2265,14 @@ public final class BuildHouse {
 
         /** Tells the tree that shows that nothing meets the rules; parts are decided in order, as it wants. */
         void refute(Row out) {
-            if (solution() >= 0) {
+            if (findSolution()) {
                 out.addText("solved");
                 return;
             }
             Arrays.fill(values, UNDECIDED);
             int decided = 0;
             boolean more = true;
-            // Each round tells one place; each of the numbers above has one at the most for each level.
-            for (int round = 0; more && round < ALL_WAYS * (PARTS + 1); round++) {
+            for (int round = 0; more && round < MOST_PLACES; round++) {
                 int k = lowestBroken();
                 if (k < 0 && decided < PARTS) {
                     out.add('?');
