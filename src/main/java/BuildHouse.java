@@ -550,25 +550,15 @@ public final class BuildHouse {
             return h;
         }
 
-        /** Where a name that begins at a place ends; that place itself when there is none. */
-        int nameEnd(int from) {
+        /**
+         * Where a name or a path that begins at a place ends; that place itself when there is none: a letter, then
+         * more of these, _, and signs from the lowest one (0 or .) up to 9.
+         */
+        int wordEnd(int from, int most, int lowest) {
             int i = Math.max(from, 0);
-            for (; i < size && i - from < NAME_SIGNS; i++) {
+            for (; i < size && i - from < most; i++) {
                 int b = bytes[i];
-                boolean later = i > from && (b >= '0' && b <= '9' || b == '_');
-                if ((b < 'a' || b > 'z') && !later) {
-                    return i;
-                }
-            }
-            return i;
-        }
-
-        /** Where a path that begins at a place ends; that place itself when there is none. */
-        int pathEnd(int from) {
-            int i = Math.max(from, 0);
-            for (; i < size && i - from < PATH_SIGNS; i++) {
-                int b = bytes[i];
-                boolean later = i > from && (b >= '.' && b <= '9' || b == '_');
+                boolean later = i > from && (b >= lowest && b <= '9' || b == '_');
                 if ((b < 'a' || b > 'z') && !later) {
                     return i;
                 }
@@ -671,13 +661,14 @@ public final class BuildHouse {
         }
 
         private boolean readName() {
-            int end = row.nameEnd(at);
+            int end = row.wordEnd(at, NAME_SIGNS, '0');
             long name = row.nameIn(at, end);
             return readWord(end, name, 0);
         }
 
         private boolean readPath() {
-            int end = row.pathEnd(at);
+            // The signs from . on are . and / and the digits.
+            int end = row.wordEnd(at, PATH_SIGNS, '.');
             return readWord(end, row.nameIn(at, end), row.nameIn(at + NAME_SIGNS, end));
         }
 
@@ -1780,7 +1771,7 @@ public final class BuildHouse {
         }
 
         private boolean readFace(Row row, int from, int end) {
-            int nameEnd = row.nameEnd(from);
+            int nameEnd = row.wordEnd(from, NAME_SIGNS, '0');
             int numberEnd = row.numberEnd(nameEnd + 1);
             if (nameEnd == from || row.at(nameEnd) != '=' || numberEnd == nameEnd + 1 || numberEnd != end
                     || faces >= faceNames.length) {
@@ -1798,7 +1789,7 @@ public final class BuildHouse {
             }
             boolean open = row.nameIn(from, from + 4) == PUB;
             int nameFrom = open ? from + 4 : from;
-            int at = row.nameEnd(nameFrom);
+            int at = row.wordEnd(nameFrom, NAME_SIGNS, '0');
             long name = row.nameIn(nameFrom, at);
             if (at == nameFrom || row.at(at) != '=' || sourceAt(name) >= 0 || sources >= sourceNames.length) {
                 return false;
@@ -1813,7 +1804,7 @@ public final class BuildHouse {
                 int after = row.numberEnd(factor);
                 int value = row.numberIn(factor, after);
                 if (after == factor) {
-                    after = row.nameEnd(factor);
+                    after = row.wordEnd(factor, NAME_SIGNS, '0');
                     value = valueOf(row.nameIn(factor, after));
                 }
                 if (after == factor || value < 0 || at != first && sign != '+' && sign != '*') {
