@@ -1,12 +1,39 @@
+import java.io.IOException;
+import java.nio.file.Files;
+import java.nio.file.Path;
+
 /** A talk with a new house, for the tests: requests with the answers that are due. */
 final class Talk {
+    private static final String DOCUMENT = readDocument();
+
     private static int wrong = 0;
+    private static String sentence = "";
 
     final BuildHouse house = new BuildHouse();
 
     /** Tells each line's request, what is ahead of " => ", and looks whether its answer is what is behind. */
     static Talk of(String script) {
         return new Talk().go(script);
+    }
+
+    /**
+     * Says for which words of the document the next calls are: these are told with what is wrong. They must stand in
+     * the document, when the property "document" says where it is: so a test does not outlive its sentence.
+     */
+    static void sentence(String words) {
+        sentence = " [" + words + "]";
+        if (!DOCUMENT.isEmpty() && !DOCUMENT.contains(words)) {
+            due("the document has these words", false, true);
+        }
+    }
+
+    private static String readDocument() {
+        String path = System.getProperty("document", "");
+        try {
+            return path.isEmpty() ? "" : Files.readString(Path.of(path));
+        } catch (IOException e) {
+            throw new IllegalStateException("no document at " + path, e);
+        }
     }
 
     Talk go(String script) {
@@ -65,8 +92,13 @@ final class Talk {
     static void due(String call, Object got, Object due) {
         if (!due.equals(got)) {
             wrong++;
-            System.out.println(call + " answered " + got + ", due is " + due);
+            System.out.println(brief(call) + " answered " + brief(got) + ", due is " + brief(due) + sentence);
         }
+    }
+
+    private static String brief(Object told) {
+        String all = String.valueOf(told);
+        return all.length() < 200 ? all : all.substring(0, 200) + " .. (" + all.length() + ")";
     }
 
     /** Ends the test, with 1 when an answer was wrong. */
